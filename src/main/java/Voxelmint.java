@@ -391,7 +391,7 @@ public final class Voxelmint {
             this.kinds = kinds;
         }
 
-        /** Outside of the world is air, so that a place at its edge can ask for those round it. */
+        /** Outside of the world is air. */
         int kindAt(int column, int level) {
             if (!isColumn(column) || !isLevel(level)) {
                 return AIR;
