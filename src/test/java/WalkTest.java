@@ -30,8 +30,9 @@ public final class WalkTest {
             int a = pickNumber(model, name, 0);
             int b = pickNumber(model, name, 1);
             int c = pickNumber(model, name, 2);
+            Call call = new Call(name, a, b, c);
             String want = model.call(name, a, b, c);
-            Check.due(walk + ", call " + i + ": " + name + "(" + a + ", " + b + ", " + c + ")", answer(world, name, a, b, c), want);
+            Check.due(walk + ", call " + i + ": " + call.told(), call.answerOf(world), want);
         }
     }
 
@@ -93,45 +94,6 @@ public final class WalkTest {
                 return argument == 0 ? 30 : argument == 1 ? 4 : 12;
             default:
                 return 40;
-        }
-    }
-
-    private static String answer(Voxelmint world, String name, int a, int b, int c) {
-        try {
-            return Integer.toString(call(world, name, a, b, c));
-        } catch (RuntimeException e) {
-            return Check.nameOf(e);
-        }
-    }
-
-    private static int call(Voxelmint world, String name, int a, int b, int c) {
-        switch (name) {
-            case "set": return world.set(a, b, c);
-            case "raise": return world.raise(a, b, c);
-            case "layer": return world.layer(a, b);
-            case "kind": return world.kind(a, b);
-            case "runs": return world.runs(a);
-            case "runLength": return world.runLength(a, b);
-            case "blocks": return world.blocks();
-            case "blocksOneByOne": return world.blocksOneByOne();
-            case "pieces": return world.pieces();
-            case "height": return world.height(a);
-            case "state": return world.state();
-            case "states": return world.states();
-            case "visit": return world.visit(a);
-            case "undo": return world.undo();
-            case "redo": return world.redo(a);
-            case "branches": return world.branches();
-            case "unlike": return world.unlike(a, b);
-            case "cut": return world.cut();
-            case "strike": return world.strike(a);
-            case "forge": return world.forge(a, b, c);
-            case "dieHeight": return world.dieHeight(a, b);
-            case "coinHeight": return world.coinHeight(a, b);
-            case "grade": return world.grade(a);
-            case "isForged": return world.isForged(a) ? 1 : 0;
-            case "distance": return world.distance(a, b);
-            default: throw new AssertionError(name);
         }
     }
 }
