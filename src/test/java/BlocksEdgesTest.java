@@ -32,6 +32,7 @@ public final class BlocksEdgesTest {
         promise8And9BlocksFewestAndMost();
         promise10PiecesFewestAndMost();
         promise10PiecesAtTheEndsOfRowsAndColumns();
+        promise10PiecesInAllDirections();
         promise11HeightOutside();
         promise11HeightLeastAndGreatest();
         Check.end("BlocksEdgesTest");
@@ -319,6 +320,27 @@ public final class BlocksEdgesTest {
         Edge.answers(what + "the last two of a row", "set(14, 7, 1); set(15, 7, 2)", "pieces()", "1");
         Edge.answers(what + "the last two rows", "set(11, 7, 1); set(15, 7, 2)", "pieces()", "1");
         Edge.answers(what + "the last two levels", "set(15, 6, 1); set(15, 7, 2)", "pieces()", "1");
+    }
+
+    private static void promise10PiecesInAllDirections() {
+        String what = "promise 10, a piece that ";
+        Edge.answers(what + "goes up", atTheBottom(5) + "set(5, 1, 1)", "pieces()", "1");
+        Edge.answers(what + "comes down", "set(0, 5, 1); set(1, 5, 1); set(1, 4, 1)", "pieces()", "1");
+        Edge.answers(what + "goes on in a row, back in another", atTheBottom(0, 1, 2, 6, 10, 9, 8), "pieces()", "1");
+        Edge.answers(what + "goes on over rows, back over them", atTheBottom(0, 4, 8, 9, 10, 6, 2), "pieces()", "1");
+        Edge.answers(what + "ends two rows below a block", atTheBottom(0, 4, 8, 9, 10, 2), "pieces()", "2");
+        Edge.answers(what + "ends at the begin of the second row", atTheBottom(0, 4, 3), "pieces()", "2");
+        Edge.answers(what + "ends at the begin of the third row", atTheBottom(0, 4, 8, 7), "pieces()", "2");
+        Edge.answers(what + "ends at the begin of the last row", atTheBottom(0, 4, 8, 12, 11), "pieces()", "2");
+        Edge.answers(what + "ends at the end of the first row", atTheBottom(0, 1, 2, 3, 8), "pieces()", "2");
+    }
+
+    private static String atTheBottom(int... columns) {
+        StringBuilder way = new StringBuilder();
+        for (int column : columns) {
+            way.append("set(").append(column).append(", 0, 1);");
+        }
+        return way.toString();
     }
 
     private static void promise11HeightOutside() {
