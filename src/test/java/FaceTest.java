@@ -6,43 +6,16 @@ import java.lang.reflect.Modifier;
 import java.nio.file.Files;
 import java.nio.file.Path;
 import java.util.ArrayList;
-import java.util.Collections;
 import java.util.List;
 import java.util.TreeSet;
+import java.util.regex.Matcher;
+import java.util.regex.Pattern;
 
 /** The public face, and the rules of the language that can be seen from the face and from words of the source. */
 public final class FaceTest {
-    private static final String INDEX = "IndexOutOfBoundsException";
-    private static final String CHANGE = INDEX + " IllegalArgumentException IllegalStateException";
-    private static final String[] METHODS = {
-        "int set(int int int) " + CHANGE,
-        "int raise(int int int) " + CHANGE,
-        "int layer(int int) " + CHANGE,
-        "int kind(int int) " + INDEX,
-        "int runs(int) " + INDEX,
-        "int runLength(int int) " + INDEX,
-        "int blocks() ",
-        "int blocksOneByOne() ",
-        "int pieces() ",
-        "int height(int) " + INDEX,
-        "int state() ",
-        "int states() ",
-        "int visit(int) " + INDEX,
-        "int undo() IllegalStateException",
-        "int redo(int) " + INDEX,
-        "int branches() ",
-        "int unlike(int int) " + INDEX,
-        "int cut() IllegalStateException",
-        "int strike(int) " + INDEX + " IllegalStateException",
-        "int forge(int int int) " + CHANGE,
-        "int dieHeight(int int) " + INDEX,
-        "int coinHeight(int int) " + INDEX,
-        "int grade(int) " + INDEX,
-        "boolean isForged(int) " + INDEX,
-        "int distance(int int) " + INDEX,
-    };
     private static final String[] WORDS_OUTSIDE_THE_LANGUAGE = {
-        "try", "catch", "finally", "synchronized", "assert", "instanceof", "System.", "->", "::", "hashCode", "toString",
+        "try", "catch", "finally", "synchronized", "assert", "instanceof", "System.", "->", "::", "hashCode",
+        "toString",
     };
 
     public static void main(String[] args) throws IOException {
@@ -53,7 +26,9 @@ public final class FaceTest {
         Check.due("NONE", Voxelmint.NONE, -1);
         methodsAreThoseOfTheDocument(face);
         constructorsAndFieldsAreThoseOfTheDocument(face);
-        sourceKeepsToTheLanguage(Files.readString(Path.of("src/main/java/Voxelmint.java")));
+        String source = Files.readString(Path.of("src/main/java/Voxelmint.java"));
+        sourceHasTheFaceInOrder(source);
+        sourceKeepsToTheLanguage(source);
         Check.end("FaceTest");
     }
 
@@ -67,7 +42,9 @@ public final class FaceTest {
             }
         }
         TreeSet<String> due = new TreeSet<>();
-        Collections.addAll(due, METHODS);
+        for (String declaration : Face.DECLARATIONS) {
+            due.add(Face.withoutNames(declaration));
+        }
         Check.due("methods", got, due);
         noPrivateMethodBearsOneOf(names, face);
     }
@@ -95,7 +72,8 @@ public final class FaceTest {
         for (Field field : face.getDeclaredFields()) {
             int modifiers = field.getModifiers();
             Check.due(field + " is private", Modifier.isPrivate(modifiers), !field.getName().equals("NONE"));
-            Check.due(field + " is final, if static", !Modifier.isStatic(modifiers) || Modifier.isFinal(modifiers), true);
+            boolean canChange = Modifier.isStatic(modifiers) && !Modifier.isFinal(modifiers);
+            Check.due(field + " is static and not final", canChange, false);
         }
     }
 
@@ -111,9 +89,25 @@ public final class FaceTest {
         Check.due("signs 1 to 127 alone", source.chars().allMatch(sign -> sign >= 1 && sign <= 127), true);
     }
 
+    /** Reflection knows neither the order nor the names of arguments. */
+    private static void sourceHasTheFaceInOrder(String source) {
+        List<String> due = new ArrayList<>(List.of("public static final int NONE = -1", "public Voxelmint()"));
+        due.addAll(Face.DECLARATIONS);
+        String line = source.replaceAll("\\s+", " ");
+        Matcher outward = Pattern.compile("\\bpublic (?!final class)[^;{]*[^;{ ]").matcher(line);
+        List<String> got = new ArrayList<>();
+        while (outward.find()) {
+            got.add(outward.group());
+        }
+        Check.due("the face in the source", got, due);
+    }
+
     private static String told(Method method) {
-        String told = method.getReturnType() + " " + method.getName();
-        return told + "(" + simpleNames(method.getParameterTypes()) + ") " + simpleNames(method.getExceptionTypes());
+        String modifiers = Modifier.toString(method.getModifiers());
+        String told = modifiers + " " + method.getReturnType() + " " + method.getName();
+        String exceptions = simpleNames(method.getExceptionTypes());
+        String clause = exceptions.isEmpty() ? "" : " throws " + exceptions;
+        return told + "(" + simpleNames(method.getParameterTypes()) + ")" + clause;
     }
 
     private static String simpleNames(Class<?>[] types) {
@@ -121,6 +115,6 @@ public final class FaceTest {
         for (Class<?> type : types) {
             names.add(type.getSimpleName());
         }
-        return String.join(" ", names);
+        return String.join(", ", names);
     }
 }

@@ -26,6 +26,22 @@ final class Model {
         parents.add(-1);
     }
 
+    int states() {
+        return worlds.size();
+    }
+
+    int branches() {
+        return children().size();
+    }
+
+    int dies() {
+        return dies.size();
+    }
+
+    int coins() {
+        return coins.size();
+    }
+
     /** Answers a call as the document asks, or with the name of the exception that is due. */
     String call(String name, int a, int b, int c) {
         switch (name) {
@@ -84,7 +100,8 @@ final class Model {
             case "isForged":
                 return !in(a, coins.size()) ? INDEX : told(isForged(a) ? 1 : 0);
             case "distance":
-                return !in(a, coins.size()) || !in(b, coins.size()) ? INDEX : told(distance(coins.get(a), coins.get(b)));
+                boolean isThere = in(a, coins.size()) && in(b, coins.size());
+                return isThere ? told(distance(coins.get(a), coins.get(b))) : INDEX;
             default:
                 throw new AssertionError(name);
         }
